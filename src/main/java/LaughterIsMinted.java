@@ -1139,7 +1139,6 @@ public final class LaughterIsMinted {
 
         private void descend(int level, int sum) {
             if (level >= levels) {
-                compare(sum);
                 return;
             }
             for (int j = 0; j < world.jokeCount; j++) {
@@ -1149,22 +1148,18 @@ public final class LaughterIsMinted {
                     if (level == levels - 1) {
                         compare(sum + much);
                     } else {
-                        goOn(level, j, h, sum + much);
+                        int worn = world.worn[j];
+                        int purse = world.purse[h];
+                        int heard = world.heard[h];
+                        world.laugh(j, h, much);
+                        refresh(level + 1, j, h);
+                        descend(level + 1, sum + much);
+                        world.worn[j] = worn;
+                        world.purse[h] = purse;
+                        world.heard[h] = heard;
                     }
                 }
             }
-        }
-
-        private void goOn(int level, int j, int h, int sum) {
-            int worn = world.worn[j];
-            int purse = world.purse[h];
-            int heard = world.heard[h];
-            world.laugh(j, h, worths[place(level, j, h)]);
-            refresh(level + 1, j, h);
-            descend(level + 1, sum);
-            world.worn[j] = worn;
-            world.purse[h] = purse;
-            world.heard[h] = heard;
         }
 
         /** A TELLING changes nothing but what its JOKE, and what its HEARER, yields. */

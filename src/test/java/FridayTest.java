@@ -21,6 +21,7 @@ public final class FridayTest {
         hearers.hearer(0, 1);
         for (LaughterIsMinted x : new LaughterIsMinted[] {none, jokes, hearers}) {
             Check.due("friday together", x.friday(3, -1), 0);
+            Check.due("friday telling", x.friday(3, 0), -1);
             Check.due("friday telling", x.friday(3, 2), -1);
             Check.due("greedy together", x.greedy(20, 0), 0);
             Check.due("greedy first", x.greedy(20, 1), -1);

@@ -66,6 +66,9 @@ public final class LawTest {
         x.text();
         Check.due("empty", x.count(5), 0);
 
+        for (int n = 1; n <= 5; n++) {
+            Check.due("as many", new LaughterIsMinted().feed(n, 1, 2, 3, 4, 5), n);
+        }
         LaughterIsMinted y = one();
         int[] all = "yields 12345".chars().toArray();
         y.feed(5, all[0], all[1], all[2], all[3], all[4]);
@@ -108,6 +111,12 @@ public final class LawTest {
 
     private static void faults() {
         fault("", 0);
+        fault("(".repeat(160), 0);
+        fault("yields 1;" + ";".repeat(151), 9);
+        fault("yields 1" + "+1".repeat(76), 160);
+        fault("yields 1;fades 2;minds 3;" + " ".repeat(134) + "x", 159);
+        fault("yields " + "x".repeat(153), 7);
+        fault("yields " + "1".repeat(153), 7);
         fault("  \n", 3);
         fault("yield 1;fades 2;minds 3;", 0);
         fault(" yieldsx 1;", 1);

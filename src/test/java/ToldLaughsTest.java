@@ -132,6 +132,15 @@ public final class ToldLaughsTest {
         Check.sheet(x, 0, 0, 9, 4, 4);
         Check.due("the text asks worn, too: 27 - 18 and 99 - 90", x.wear(0, 0, 0), 2);
         Check.due("least", x.wear(0, 0, 1), 9);
+        LaughterIsMinted y = new LaughterIsMinted();
+        y.joke(4, 3);
+        y.hearer(5, 1);
+        Check.sheet(y, 0, 0, 35 - 18 + 6);
+        Check.due("a chestnut worn 9, or 23", y.wear(0, 0, 0), 2);
+        Check.due("least", y.wear(0, 0, 1), 9);
+        Check.sheet(y, 0, 0, 35 - 2 + 6 + 10);
+        Check.due("a chestnut worn 10", y.wear(0, 0, 0), 1);
+        Check.due("least", y.wear(0, 0, 1), 10);
         Check.due("no such joke", x.wear(0, 0, 30), -5);
         Check.due("no such joke", x.wear(0, 0, -1), -5);
         Check.due("no such joke", x.wear(0, 0, 32), -5);
