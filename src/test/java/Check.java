@@ -2,15 +2,21 @@
 final class Check {
     private static int wrong = 0;
     private static int asked = 0;
+    private static String test = "";
 
     private Check() {
+    }
+
+    /** What is printed from now on begins with the name of this test. */
+    static void in(String name) {
+        test = name + ": ";
     }
 
     static void due(String call, long got, long want) {
         asked++;
         if (got != want) {
             wrong++;
-            System.out.println(call + " answered " + got + ", due is " + want);
+            System.out.println(test + call + " answered " + got + ", due is " + want);
         }
     }
 
@@ -18,10 +24,11 @@ final class Check {
         due(what, is ? 1 : 0, 1);
     }
 
-    /** Feeds a text byte by byte; the answer of text(). */
+    /** Feeds a text, five bytes by five; the answer of text(). */
     static int read(LaughterIsMinted x, String text) {
-        for (int i = 0; i < text.length(); i++) {
-            x.feed(1, text.charAt(i), 0, 0, 0, 0);
+        int[] b = java.util.Arrays.copyOf(text.chars().toArray(), text.length() + 4);
+        for (int i = 0; i < text.length(); i += 5) {
+            x.feed(Math.min(5, text.length() - i), b[i], b[i + 1], b[i + 2], b[i + 3], b[i + 4]);
         }
         return x.text();
     }

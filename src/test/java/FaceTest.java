@@ -53,10 +53,7 @@ public final class FaceTest {
         Check.so("one constructor", made.length == 1 && made[0].getModifiers() == Modifier.PUBLIC
             && made[0].getParameterCount() == 0);
         Set<String> face = new TreeSet<>(Set.of(FACE));
-        Set<String> names = new TreeSet<>();
-        for (String call : FACE) {
-            names.add(call.substring(call.indexOf(' ') + 1, call.indexOf('(')));
-        }
+        Set<String> names = names();
         for (Method method : LaughterIsMinted.class.getDeclaredMethods()) {
             if (isHidden(method)) {
                 Check.so("private " + method.getName(), !names.contains(method.getName()));
@@ -66,6 +63,14 @@ public final class FaceTest {
             }
         }
         Check.so("missing: " + face, face.isEmpty());
+    }
+
+    private static Set<String> names() {
+        Set<String> names = new TreeSet<>();
+        for (String call : FACE) {
+            names.add(call.substring(call.indexOf(' ') + 1, call.indexOf('(')));
+        }
+        return names;
     }
 
     private static boolean isHidden(Member member) {
@@ -95,6 +100,7 @@ public final class FaceTest {
             Check.so("some twenty fields", fields <= 20);
             for (Method method : one.getDeclaredMethods()) {
                 Check.so("parameters " + method, method.getParameterCount() <= 7);
+                Check.so("not named as a public one " + method, !names().contains(method.getName()));
                 Check.so("not of an object " + method,
                     !Set.of("equals", "hashCode", "toString").contains(method.getName()));
             }

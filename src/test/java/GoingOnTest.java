@@ -10,20 +10,8 @@ public final class GoingOnTest {
         Check.end("GoingOnTest");
     }
 
-    private static LaughterIsMinted town(int kind, int more, int... friends) {
-        LaughterIsMinted x = new LaughterIsMinted();
-        x.joke(kind, more);
-        for (int h = 0; h < friends.length; h++) {
-            x.hearer(0, 1);
-        }
-        for (int h = 0; h < friends.length; h++) {
-            Check.due("friends", x.set(h, 2, friends[h]), 0);
-        }
-        return x;
-    }
-
     private static void chain() {
-        LaughterIsMinted x = town(0, 0, 2, 4, 8, 16, 32, 0);
+        LaughterIsMinted x = Edges.town(0, 0, 2, 4, 8, 16, 32, 0);
         for (int days = 0; days <= 20; days++) {
             Check.due("days " + days, x.spread(0, 1, days), (1 << Math.min(6, days + 1)) - 1);
         }
@@ -35,45 +23,45 @@ public final class GoingOnTest {
         Check.due("how many", x.furthest(0, 2, 1), 3);
         Check.due("of like ones", x.furthest(0, 0, 0), 0);
         Check.due("how many", x.furthest(0, 0, 1), 1);
-        LaughterIsMinted y = town(0, 0, 0, 1, 2);
+        LaughterIsMinted y = Edges.town(0, 0, 0, 1, 2);
         Check.due("furthest", y.furthest(0, 20, 0), 2);
         Check.due("how many", y.furthest(0, 20, 1), 3);
         Check.due("heard does not matter", y.set(0, 3, 1), 0);
         Check.due("furthest", y.furthest(0, 20, 1), 3);
-        LaughterIsMinted alone = town(4, 0, 0);
+        LaughterIsMinted alone = Edges.town(4, 0, 0);
         Check.due("at once", alone.through(0, 0), 0);
-        LaughterIsMinted z = town(0, 0, 62, 0, 0, 0, 0, 0);
+        LaughterIsMinted z = Edges.town(0, 0, 62, 0, 0, 0, 0, 0);
         Check.due("one a day", z.through(0, 0), 5);
         Check.due("one a day", z.spread(0, 1, 3), 15);
     }
 
     /** What one tells on, the next one no longer tells to the same. */
     private static void byNumbers() {
-        LaughterIsMinted x = town(0, 0, 12, 12, 0, 0);
+        LaughterIsMinted x = Edges.town(0, 0, 12, 12, 0, 0);
         Check.due("not twice", x.spread(0, 3, 1), 15);
-        LaughterIsMinted y = town(0, 0, 2, 4, 0);
+        LaughterIsMinted y = Edges.town(0, 0, 2, 4, 0);
         Check.due("not on the same day", y.spread(0, 1, 1), 3);
-        LaughterIsMinted z = town(0, 0, 6, 12, 8, 0);
+        LaughterIsMinted z = Edges.town(0, 0, 6, 12, 8, 0);
         Check.due("the first friends who have it not", z.spread(0, 5, 1), 15);
     }
 
     private static void toMany() {
-        LaughterIsMinted x = town(1, 0, 62, 0, 0, 0, 0, 0);
+        LaughterIsMinted x = Edges.town(1, 0, 62, 0, 0, 0, 0, 0);
         Check.due("pun", x.spread(0, 1, 1), 7);
         Check.due("pun", x.through(0, 0), 3);
-        LaughterIsMinted g = town(3, 0, 62, 0, 0, 0, 0, 0);
+        LaughterIsMinted g = Edges.town(3, 0, 62, 0, 0, 0, 0, 0);
         Check.due("groaner", g.spread(0, 1, 2), 31);
-        LaughterIsMinted y = town(2, 9, 62, 0, 0, 0, 0, 0);
+        LaughterIsMinted y = Edges.town(2, 9, 62, 0, 0, 0, 0, 0);
         Check.due("yarn", y.spread(0, 1, 2), 7);
         int[] due = {3, 3, 3, 7, 7, 7, 15, 15, 15, 31};
         for (int more = 0; more <= 9; more++) {
-            LaughterIsMinted b = town(5, more, 62, 0, 0, 0, 0, 0);
+            LaughterIsMinted b = Edges.town(5, more, 62, 0, 0, 0, 0, 0);
             Check.due("borrowed " + more, b.spread(0, 1, 1), due[more]);
         }
     }
 
     private static void chestnutStays() {
-        LaughterIsMinted x = town(4, 9, 62, 61, 59, 55, 47, 31);
+        LaughterIsMinted x = Edges.town(4, 9, 62, 61, 59, 55, 47, 31);
         Check.due("stays", x.spread(0, 9, 20), 9);
         Check.due("never", x.through(0, 0), -1);
         Check.due("just these", x.origin(0, 8, 20), 8);
@@ -81,7 +69,7 @@ public final class GoingOnTest {
     }
 
     private static void origins() {
-        LaughterIsMinted x = town(0, 0, 2, 1, 1, 2);
+        LaughterIsMinted x = Edges.town(0, 0, 2, 1, 1, 2);
         Check.due("two could be", x.origin(0, 3, 1), 3);
         Check.due("not later", x.origin(0, 5, 1), 4);
         Check.due("later", x.origin(0, 7, 2), 4);
@@ -104,7 +92,7 @@ public final class GoingOnTest {
         Check.due("none", none.furthest(0, 0, 0), -1);
         Check.due("none", none.furthest(0, 0, 1), -1);
         Check.due("what", none.furthest(0, 0, 2), -7);
-        LaughterIsMinted x = town(0, 0, 0, 0);
+        LaughterIsMinted x = Edges.town(0, 0, 0, 0);
         for (int bits : new int[] {-1, 4, Integer.MIN_VALUE}) {
             Check.due("first", x.spread(0, bits, 0), -7);
             Check.due("have", x.origin(0, bits, 0), -7);
