@@ -1126,7 +1126,7 @@ public final class LaughterIsMinted {
                     worths[place(0, j, h)] = world.worth(j, h);
                 }
             }
-            descend(0, 0);
+            descend(this, 0, 0);
         }
 
         int bestAt(int level) {
@@ -1137,23 +1137,24 @@ public final class LaughterIsMinted {
             return level * PLACES + j * HEARERS_MOST + h;
         }
 
-        private void descend(int level, int sum) {
-            if (level >= levels) {
+        private static void descend(Search s, int level, int sum) {
+            if (level >= s.levels) {
                 return;
             }
+            World world = s.world;
             for (int j = 0; j < world.jokeCount; j++) {
                 for (int h = 0; h < world.hearerCount; h++) {
-                    row[level] = 10 * j + h;
-                    int much = worths[place(level, j, h)];
-                    if (level == levels - 1) {
-                        compare(sum + much);
+                    s.row[level] = 10 * j + h;
+                    int much = s.worths[place(level, j, h)];
+                    if (level == s.levels - 1) {
+                        s.compare(sum + much);
                     } else {
                         int worn = world.worn[j];
                         int purse = world.purse[h];
                         int heard = world.heard[h];
                         world.laugh(j, h, much);
-                        refresh(level + 1, j, h);
-                        descend(level + 1, sum + much);
+                        s.refresh(level + 1, j, h);
+                        descend(s, level + 1, sum + much);
                         world.worn[j] = worn;
                         world.purse[h] = purse;
                         world.heard[h] = heard;
@@ -1198,19 +1199,19 @@ public final class LaughterIsMinted {
             first = a;
             best = much;
             bestDigits = 0;
-            goOn(a, much, 0, 1 << a);
+            goOn(this, a, much, 0, 1 << a);
         }
 
-        private void goOn(int at, long much, int digits, int been) {
+        private static void goOn(Rounds r, int at, long much, int digits, int been) {
             // three others have three digits: no round is longer
             if (digits > 999) {
                 return;
             }
             for (int to = 0; to < TOWNS; to++) {
-                if (to == first) {
-                    compare(world.changed(at, to, much), digits);
+                if (to == r.first) {
+                    r.compare(r.world.changed(at, to, much), digits);
                 } else if (!hasBit(been, to)) {
-                    goOn(to, world.changed(at, to, much), digits * 10 + to + 1, been | 1 << to);
+                    goOn(r, to, r.world.changed(at, to, much), digits * 10 + to + 1, been | 1 << to);
                 }
             }
         }
@@ -1434,11 +1435,28 @@ public final class LaughterIsMinted {
             return stands;
         }
 
+        /** As many of these as stand there, but no more than may: one more then is where it can't stand. */
+        private int takeSome(int kind, int most) {
+            int many = 0;
+            while (many < most && isNext(kind)) {
+                at++;
+                many++;
+            }
+            return many;
+        }
+
         /** A step is written; so that it may end a reading, it always is true. */
         private boolean write(int step) {
             if (codeSize < TAPE_MOST) {
                 code[codeSize] = step;
                 codeSize++;
+            }
+            return true;
+        }
+
+        private boolean writeSome(int step, int times) {
+            for (int k = 0; k < times; k++) {
+                write(step);
             }
             return true;
         }
@@ -1470,9 +1488,11 @@ public final class LaughterIsMinted {
         }
 
         private boolean denied(int open) {
-            if (isNext(NOT)) {
-                return open < OPEN_MOST && take(NOT) && denied(open + 1) && write(LawBook.NOT);
-            }
+            int nots = takeSome(NOT, OPEN_MOST - open);
+            return compared(open + nots) && writeSome(LawBook.NOT, nots);
+        }
+
+        private boolean compared(int open) {
             if (!sum(open)) {
                 return false;
             }
@@ -1511,13 +1531,15 @@ public final class LaughterIsMinted {
         }
 
         private boolean one(int open) {
+            int minuses = takeSome('-', OPEN_MOST - open);
+            return single(open + minuses) && writeSome(LawBook.NEGATE, minuses);
+        }
+
+        private boolean single(int open) {
             if (at >= tokens) {
                 return false;
             }
             int kind = kinds[at];
-            if (kind == '-') {
-                return open < OPEN_MOST && take('-') && one(open + 1) && write(LawBook.NEGATE);
-            }
             if (kind == '(') {
                 return open < OPEN_MOST && take('(') && either(open + 1) && take(')');
             }

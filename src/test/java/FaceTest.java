@@ -7,6 +7,8 @@ import java.nio.file.Files;
 import java.nio.file.Path;
 import java.util.Set;
 import java.util.TreeSet;
+import java.util.regex.Matcher;
+import java.util.regex.Pattern;
 
 /** The class's public face, and those rules of LANGUAGE.md that its file or its members show. Run in the project's folder. */
 public final class FaceTest {
@@ -22,6 +24,8 @@ public final class FaceTest {
         "long amiss(int,int)", "int film(int,int)", "int drawn(int,int)", "long odds(int,int,int,int)", "int image()",
         "int back()", "int sheet(int,int,int)", "int cell(int,int,int)", "int copy(int,int,int,int,int)",
         "int jokesBy(int,int,int,int)", "int taken(int,int)"};
+
+    private static final Pattern HEAD = Pattern.compile("( {4}| {8})(?!if |for |while |switch |\\})(\\S.*\\b)(\\w+)\\(.*\\) \\{");
 
     public static void main(String[] args) throws Exception {
         constants();
@@ -118,16 +122,30 @@ public final class FaceTest {
         }
         Check.so("no lambda, no method reference", !bare.contains("->") && !bare.contains("::"));
         Check.so("no Exact", !bare.contains("Exact"));
+        methods(bare.split("\n"));
+    }
+
+    /** A method's lines: from one that ends in ") {" to the brace at the same place. */
+    private static void methods(String[] lines) {
         int longest = 0;
-        int from = 0;
-        String[] lines = text.split("\n");
+        int itself = 0;
         for (int i = 0; i < lines.length; i++) {
-            if (lines[i].matches("( {4}| {8})[^ }/].*\\) \\{")) {
-                from = i;
-            } else if (lines[i].matches("( {4}| {8})\\}")) {
-                longest = Math.max(longest, i - from + 1);
+            Matcher head = HEAD.matcher(lines[i]);
+            if (!head.matches()) {
+                continue;
             }
+            int to = i + 1;
+            boolean calls = false;
+            while (to < lines.length && !lines[to].equals(head.group(1) + "}")) {
+                calls |= lines[to].matches(".*(?<![.\\w])" + head.group(3) + "\\(.*");
+                to++;
+            }
+            itself += calls ? 1 : 0;
+            Check.so(head.group(3) + " calls itself, so it is private and static",
+                !calls || head.group(2).startsWith("private static "));
+            longest = Math.max(longest, to - i + 1);
         }
         Check.so("the longest method: " + longest, longest <= 60 && longest > 5);
+        Check.so("some method calls itself", itself > 0);
     }
 }
